@@ -35,6 +35,8 @@ public final class WaistcoatGreen {
     private static final int SLOTS = 4;
     private static final int IMAGES = 3;
 
+    private static final int GIFT = 0;
+    private static final int TUNE = 1;
     private static final int SONG = 10;
     private static final int HARDER = 5;
     private static final int PURSE = 1_000;
@@ -653,7 +655,7 @@ public final class WaistcoatGreen {
         if (green.acts >= MOST_ACTS) {
             return NOT_NOW;
         }
-        green.act(villager, morning, false);
+        green.act(GIFT, villager, morning);
         settle();
         return now.holder[green.mornings];
     }
@@ -665,7 +667,7 @@ public final class WaistcoatGreen {
         if (green.acts >= MOST_ACTS) {
             return NOT_NOW;
         }
-        green.act(villager, morning, true);
+        green.act(TUNE, villager, morning);
         settle();
         return now.coldOf(villager, morning);
     }
@@ -1083,9 +1085,9 @@ public final class WaistcoatGreen {
         final int[] shy = new int[MOST_VILLAGERS];
         final int[] joined = new int[MOST_VILLAGERS];
         final int[] frostOn = new int[MOST_MORNINGS + 1];
+        final int[] actKind = new int[MOST_ACTS];
         final int[] actVillager = new int[MOST_ACTS];
         final int[] actMorning = new int[MOST_ACTS];
-        final boolean[] actIsSong = new boolean[MOST_ACTS];
 
         boolean isTold() {
             return lines > 0;
@@ -1132,10 +1134,11 @@ public final class WaistcoatGreen {
             frosts++;
         }
 
-        void act(int villager, int morning, boolean isSong) {
+        /** There is room for one more. */
+        void act(int kind, int villager, int morning) {
+            actKind[acts] = kind;
             actVillager[acts] = villager;
             actMorning[acts] = morning;
-            actIsSong[acts] = isSong;
             acts++;
         }
 
@@ -1175,9 +1178,9 @@ public final class WaistcoatGreen {
             System.arraycopy(from.shy, 0, shy, 0, MOST_VILLAGERS);
             System.arraycopy(from.joined, 0, joined, 0, MOST_VILLAGERS);
             System.arraycopy(from.frostOn, 0, frostOn, 0, MOST_MORNINGS + 1);
+            System.arraycopy(from.actKind, 0, actKind, 0, MOST_ACTS);
             System.arraycopy(from.actVillager, 0, actVillager, 0, MOST_ACTS);
             System.arraycopy(from.actMorning, 0, actMorning, 0, MOST_ACTS);
-            System.arraycopy(from.actIsSong, 0, actIsSong, 0, MOST_ACTS);
         }
     }
 
@@ -1234,7 +1237,7 @@ public final class WaistcoatGreen {
                 given[m] = NONE;
             }
             for (int i = 0; i < green.acts; i++) {
-                if (!green.actIsSong[i] && (set >> green.actVillager[i] & 1) == 1) {
+                if (green.actKind[i] == GIFT && (set >> green.actVillager[i] & 1) == 1) {
                     given[green.actMorning[i]] = green.actVillager[i];
                 }
             }
@@ -1245,7 +1248,7 @@ public final class WaistcoatGreen {
                 songs[i] = 0;
             }
             for (int i = 0; i < green.acts; i++) {
-                if (green.actIsSong[i]) {
+                if (green.actKind[i] == TUNE) {
                     songs[at(green.actVillager[i], green.actMorning[i])]++;
                 }
             }
@@ -1403,6 +1406,9 @@ public final class WaistcoatGreen {
 
     /** Looks for the rows of some mornings by which all suffer least. */
     private static final class Planner {
+        /** More than all can suffer on so few mornings. */
+        private static final int BEYOND_ALL = 1_000_000;
+
         final Winter winter;
         final int[] row = new int[MOST_PLANNED + 1];
         int last;
@@ -1416,7 +1422,7 @@ public final class WaistcoatGreen {
         /** At most 4 mornings, and no more than the green has. */
         void search(int n) {
             last = n;
-            least = Integer.MAX_VALUE;
+            least = BEYOND_ALL;
             rows = 0;
             winter.tell();
             winter.begin();
