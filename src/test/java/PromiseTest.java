@@ -224,7 +224,7 @@ public final class PromiseTest {
         WaistcoatGreen line = Check.told(BARE + "villager cold 1 shy 1;".repeat(7)
                 + "hand 6 5;hand 5 4;hand 4 3;hand 3 2;hand 2 1;hand 1 0;");
         due("far(0, 6) along a line", line.far(0, 6), 6);
-        due("reach(3)", line.reach(3), 127);
+        due("reach along a line", over(0, 6, v -> line.reach(v)), 127, 127, 127, 127, 127, 127, 127);
         due("cover() of a line", line.cover(), 3);
         due("covers() of a line: 0, 2, 5", line.covers(), 1 + 4 + 32);
         WaistcoatGreen star = Check.told(BARE + "villager cold 1 shy 1;".repeat(4) + "hand 3 0;hand 3 1;hand 3 2;hand 2 3;");
@@ -374,6 +374,10 @@ public final class PromiseTest {
                 + "hand 0 1; hand 1 4; hand 4 2;");
         due("law 2 over whomever, the first of several, none beyond hands", far.passes(0), 2);
         due("has by law 2", over(0, 2, m -> far.has(m)), 0, 2, 4);
+        WaistcoatGreen line = Check.told("green mornings 1 law 2 odds 0 warm 5 chill 1; villager cold 10 shy 0 wears;"
+                + "villager cold 9 shy 99;".repeat(5) + "villager cold 11 shy 11;"
+                + "hand 0 1; hand 1 2; hand 2 3; hand 3 4; hand 4 5; hand 5 6;");
+        due("law 2 by six hands", line.passes(0), 6);
     }
 
     // ---- 63 to 66 ----
