@@ -4,6 +4,8 @@ import java.nio.charset.StandardCharsets;
 final class Check {
     private static int wrong = 0;
     private static int asked = 0;
+    /** How many answers were asked for of each promise, by its number. */
+    private static final int[] OF_PROMISE = new int[76];
 
     private Check() {
     }
@@ -21,6 +23,23 @@ final class Check {
         due(call + " (how many)", got.length, want.length);
         for (int i = 0; i < Math.min(got.length, want.length); i++) {
             due(call + " at " + i, got[i], want[i]);
+        }
+    }
+
+    /** An answer that a promise names, so that a promise without any can be told. */
+    static void due(int promise, String call, long got, long want) {
+        OF_PROMISE[promise]++;
+        due("promise " + promise + ": " + call, got, want);
+    }
+
+    static void due(int promise, String call, long[] got, long... want) {
+        OF_PROMISE[promise]++;
+        due("promise " + promise + ": " + call, got, want);
+    }
+
+    static void everyPromiseWasAsked() {
+        for (int promise = 1; promise < OF_PROMISE.length; promise++) {
+            due("promise " + promise + " has a boundary of its own", OF_PROMISE[promise] > 0 ? 1 : 0, 1);
         }
     }
 
