@@ -487,6 +487,8 @@ final class WinterBounds {
         y.gives(2, 1);
         due(24, "round: he of the last morning", y.round(), 4);
         due(35, "jumps on the last", y.jumps(), 1);
+        WaistcoatGreen early = Check.told(Texts.green(1, 0, 0, 40, 0) + Texts.villager(30, 99) + Texts.wearer(60, 99));
+        due(29, "blue: 60 on the first alone, 30 and 20 on the last", early.blue(), 1);
         WaistcoatGreen nought = Check.told(Texts.LEAST + Texts.villager(0, 99).repeat(2));
         due(29, "blue of nobody colder than 0", nought.blue(), 0);
         due(27, "worst of nothing suffered", nought.worst(), 0);
