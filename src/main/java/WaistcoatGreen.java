@@ -1419,27 +1419,28 @@ public final class WaistcoatGreen {
             this.winter = winter;
         }
 
-        /** At most 4 mornings, and no more than the green has. */
+        /** No more mornings than the green has. */
         void search(int n) {
-            last = n;
+            last = Math.min(n, MOST_PLANNED);
             least = BEYOND_ALL;
             rows = 0;
             winter.tell();
             winter.begin();
-            goOn(0, winter.coldOfAll(0));
+            goOn(this, 0, winter.coldOfAll(0));
         }
 
         /** Rows are tried from the least on, so that the first of several stays. */
-        private void goOn(int morning, int suffered) {
-            if (morning >= last) {
-                weigh(suffered);
+        private static void goOn(Planner planner, int morning, int suffered) {
+            if (morning >= planner.last) {
+                planner.weigh(suffered);
                 return;
             }
+            Winter winter = planner.winter;
             for (int next = NONE; next < winter.green.villagers; next++) {
-                if (canGo(winter.holder[morning], next)) {
+                if (planner.canGo(winter.holder[morning], next)) {
                     winter.holder[morning + 1] = next;
                     winter.freeze(morning + 1);
-                    goOn(morning + 1, suffered + winter.coldOfAll(morning + 1));
+                    goOn(planner, morning + 1, suffered + winter.coldOfAll(morning + 1));
                 }
             }
         }
